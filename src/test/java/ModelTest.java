@@ -43,6 +43,9 @@ public final class ModelTest {
 
     private boolean passes() {
         int writes = 40 + below(40);
+        if (below(4) == 0) {
+            fillAMap();
+        }
         while (right && calls < CALLS_BEFORE_AUDIT) {
             if (below(100) < writes) {
                 callWriter();
@@ -52,6 +55,13 @@ public final class ModelTest {
         }
         audit();
         return right;
+    }
+
+    /** Calls by chance alone hardly ever bring a map to its 60 keys. */
+    private void fillAMap() {
+        for (int at = 0; at < Math.min(keys.length, 62); at++) {
+            put(0, keys[at], at);
+        }
     }
 
     private int below(int bound) {

@@ -295,11 +295,12 @@ public final class PromiseTest {
             due("the least number", map, trie.snapshot(map / 2, map % 2 == 0));
         }
         dueThrow("a seventh map", STATE, () -> trie.snapshot(0, false));
-        due("no new generation", 4 * 2 + 3, trie.generation(5));
+        due("no new generation", 2, trie.generation(0));
         trie.drop(4);
         trie.drop(2);
         due("the least number that there is not", 2, trie.snapshot(5, false));
         due("and the next", 4, trie.snapshot(5, false));
+        due("eleven generations before these two", 15, trie.generation(4));
         for (int map : new int[] {-1, 6, Integer.MIN_VALUE, Integer.MAX_VALUE}) {
             dueThrow("snapshot of map " + map, ARGUMENT, () -> trie.snapshot(map, false));
         }
