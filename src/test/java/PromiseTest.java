@@ -1,61 +1,16 @@
-import java.util.NoSuchElementException;
-
 /** Each promise of the document by hand-made runs: ordinary inputs, the edges, wrong inputs. */
-public final class PromiseTest {
-    private static final String ARGUMENT = "IllegalArgumentException";
-    private static final String STATE = "IllegalStateException";
-    private static final String UNSUPPORTED = "UnsupportedOperationException";
-    private static final String NO_ELEMENT = "NoSuchElementException";
+public final class PromiseTest extends Checks {
     private static final int[] NO_MAPS = {-1, 6, 1, 5, Integer.MIN_VALUE, Integer.MAX_VALUE};
     private static final int[] NO_ITERATORS = {-1, 0, 3, 4, Integer.MIN_VALUE, Integer.MAX_VALUE};
 
-    private static int wrong = 0;
-    private static String promise = "";
-
-    private interface Call {
-        long answer();
-    }
-
     public static void main(String[] args) {
-        newObject();
-        putAnswers();
-        putMakesNodes();
-        putMakesBags();
-        putRefusesASeventhInABag();
-        putRefusesASixtyFirstKey();
-        putWritesTheSameValue();
-        get();
-        removeAnswers();
-        removeCollapses();
-        removeStopsCollapsingAtANode();
-        removeFromABagKeepsTheOrder();
-        removeCopiesWhatLeaves();
-        replace();
-        snapshotNumbers();
-        snapshotIsolates();
-        snapshotOfAReadOnlyMap();
-        drop();
-        iterateNumbers();
-        iterateOrder();
-        iteratorsDoNotSeeWrites();
-        next();
-        value();
-        copied();
-        copiedStaysWhenACallThrows();
-        measure();
-        common();
-        generation();
-        theFirstNamedExceptionIsThrown();
-        System.out.println(wrong == 0 ? "all promises hold" : wrong + " answers are not as due");
-        if (wrong != 0) {
-            System.exit(1);
-        }
+        runTestsOf(PromiseTest.class);
     }
 
     // Promise 1
 
-    private static void newObject() {
-        promise = "1 (a new object)";
+    @Says(where = "Promise 1", words = "a new object")
+    static void newObject() {
         SnapshotTrie trie = new SnapshotTrie();
         due("NONE", -1, SnapshotTrie.NONE);
         dueMeasures(trie, 0, 0, 1, 0, 1, 1);
@@ -76,8 +31,8 @@ public final class PromiseTest {
 
     // Promise 2
 
-    private static void putAnswers() {
-        promise = "2 (put)";
+    @Says(where = "Promise 2", words = "put")
+    static void putAnswers() {
         SnapshotTrie trie = new SnapshotTrie();
         due("a new key", 1, flag(trie.put(0, 7, 70)));
         due("a known key", 0, flag(trie.put(0, 7, 71)));
@@ -94,8 +49,8 @@ public final class PromiseTest {
         due("which keeps its value", 71, trie.get(1, 7));
     }
 
-    private static void putMakesNodes() {
-        promise = "2 (put, nodes)";
+    @Says(where = "Promise 2", words = "put, nodes")
+    static void putMakesNodes() {
         SnapshotTrie trie = new SnapshotTrie();
         trie.put(0, key("0000", 0), 1);
         dueMeasures(trie, 0, 1, 1, 0, 1, 1);
@@ -109,8 +64,8 @@ public final class PromiseTest {
         dueMeasures(trie, 0, 5, 7, 0, 4, 7);
     }
 
-    private static void putMakesBags() {
-        promise = "2 (put, bags)";
+    @Says(where = "Promise 2", words = "put, bags")
+    static void putMakesBags() {
         SnapshotTrie trie = new SnapshotTrie();
         trie.put(0, key("3210", 1), 1);
         trie.put(0, key("3210", 0), 2);
@@ -122,8 +77,8 @@ public final class PromiseTest {
         due("the value put once more", 4, trie.get(0, key("3210", 1)));
     }
 
-    private static void putRefusesASeventhInABag() {
-        promise = "2 (put, a full bag)";
+    @Says(where = "Promise 2", words = "put, a full bag")
+    static void putRefusesASeventhInABag() {
         SnapshotTrie trie = new SnapshotTrie();
         for (int i = 0; i < 6; i++) {
             due("entry " + i, 1, flag(trie.put(0, key("1111", i), i)));
@@ -138,8 +93,8 @@ public final class PromiseTest {
         due("makes room", 1, flag(trie.put(0, key("1111", 6), 6)));
     }
 
-    private static void putRefusesASixtyFirstKey() {
-        promise = "2 (put, a full map)";
+    @Says(where = "Promise 2", words = "put, a full map")
+    static void putRefusesASixtyFirstKey() {
         SnapshotTrie trie = new SnapshotTrie();
         for (int i = 0; i < 60; i++) {
             due("key " + i, 1, flag(trie.put(0, i, i)));
@@ -155,8 +110,8 @@ public final class PromiseTest {
         dueThrow("the snapshot is full too", STATE, () -> flag(trie.put(1, 60, 60)));
     }
 
-    private static void putWritesTheSameValue() {
-        promise = "2 (put, the same value)";
+    @Says(where = "Promise 2", words = "put, the same value")
+    static void putWritesTheSameValue() {
         SnapshotTrie trie = new SnapshotTrie();
         trie.put(0, 1, 1);
         trie.snapshot(0, false);
@@ -167,8 +122,8 @@ public final class PromiseTest {
 
     // Promise 3
 
-    private static void get() {
-        promise = "3 (get)";
+    @Says(where = "Promise 3", words = "get")
+    static void get() {
         SnapshotTrie trie = new SnapshotTrie();
         dueThrow("an empty map", NO_ELEMENT, () -> trie.get(0, 0));
         trie.put(0, key("2000", 0), 5);
@@ -188,8 +143,8 @@ public final class PromiseTest {
 
     // Promise 4
 
-    private static void removeAnswers() {
-        promise = "4 (remove)";
+    @Says(where = "Promise 4", words = "remove")
+    static void removeAnswers() {
         SnapshotTrie trie = new SnapshotTrie();
         dueThrow("from an empty map", NO_ELEMENT, () -> trie.remove(0, 1));
         trie.put(0, 1, -9);
@@ -206,8 +161,8 @@ public final class PromiseTest {
         due("which keeps it", 4, trie.get(1, 1));
     }
 
-    private static void removeCollapses() {
-        promise = "4 (remove, nodes leave)";
+    @Says(where = "Promise 4", words = "remove, nodes leave")
+    static void removeCollapses() {
         SnapshotTrie trie = new SnapshotTrie();
         trie.put(0, key("0000", 0), 1);
         trie.put(0, key("0000", 1), 2);
@@ -219,8 +174,8 @@ public final class PromiseTest {
         dueMeasures(trie, 0, 0, 1, 0, 1, 1);
     }
 
-    private static void removeStopsCollapsingAtANode() {
-        promise = "4 (remove, nodes stay)";
+    @Says(where = "Promise 4", words = "remove, nodes stay")
+    static void removeStopsCollapsingAtANode() {
         SnapshotTrie trie = new SnapshotTrie();
         trie.put(0, key("0000", 0), 1);
         trie.put(0, key("0001", 0), 2);
@@ -234,8 +189,8 @@ public final class PromiseTest {
         dueOrder(trie, 0, key("0001", 0), key("0200", 0));
     }
 
-    private static void removeFromABagKeepsTheOrder() {
-        promise = "4 (remove, a bag)";
+    @Says(where = "Promise 4", words = "remove, a bag")
+    static void removeFromABagKeepsTheOrder() {
         SnapshotTrie trie = new SnapshotTrie();
         for (int i = 0; i < 6; i++) {
             trie.put(0, key("0123", i), i);
@@ -247,8 +202,8 @@ public final class PromiseTest {
         dueOrder(trie, 0, key("0123", 1), key("0123", 3), key("0123", 4), key("0123", 2));
     }
 
-    private static void removeCopiesWhatLeaves() {
-        promise = "4 (remove, copies before)";
+    @Says(where = "Promise 4", words = "remove, copies before")
+    static void removeCopiesWhatLeaves() {
         SnapshotTrie trie = new SnapshotTrie();
         trie.put(0, key("0000", 0), 1);
         trie.put(0, key("0000", 1), 2);
@@ -261,8 +216,8 @@ public final class PromiseTest {
 
     // Promise 5
 
-    private static void replace() {
-        promise = "5 (replace)";
+    @Says(where = "Promise 5", words = "replace")
+    static void replace() {
         SnapshotTrie trie = new SnapshotTrie();
         due("a key that is not there", 0, flag(trie.replace(0, 1, 0, 5)));
         dueThrow("and is not put", NO_ELEMENT, () -> trie.get(0, 1));
@@ -288,8 +243,8 @@ public final class PromiseTest {
 
     // Promise 6
 
-    private static void snapshotNumbers() {
-        promise = "6 (snapshot)";
+    @Says(where = "Promise 6", words = "snapshot")
+    static void snapshotNumbers() {
         SnapshotTrie trie = new SnapshotTrie();
         for (int map = 1; map < 6; map++) {
             due("the least number", map, trie.snapshot(map / 2, map % 2 == 0));
@@ -308,8 +263,8 @@ public final class PromiseTest {
         dueThrow("snapshot of a dropped map", ARGUMENT, () -> trie.snapshot(3, false));
     }
 
-    private static void snapshotIsolates() {
-        promise = "6 (snapshot, later writes)";
+    @Says(where = "Promise 6", words = "snapshot, later writes")
+    static void snapshotIsolates() {
         SnapshotTrie trie = new SnapshotTrie();
         trie.put(0, 1, 10);
         trie.put(0, 2, 20);
@@ -326,8 +281,8 @@ public final class PromiseTest {
         due("keys", 2, trie.measure(1, 0));
     }
 
-    private static void snapshotOfAReadOnlyMap() {
-        promise = "6 (snapshot, read-only)";
+    @Says(where = "Promise 6", words = "snapshot, read-only")
+    static void snapshotOfAReadOnlyMap() {
         SnapshotTrie trie = new SnapshotTrie();
         trie.put(0, 1, 10);
         trie.snapshot(0, true);
@@ -344,8 +299,8 @@ public final class PromiseTest {
 
     // Promise 7
 
-    private static void drop() {
-        promise = "7 (drop)";
+    @Says(where = "Promise 7", words = "drop")
+    static void drop() {
         SnapshotTrie trie = new SnapshotTrie();
         trie.put(0, 1, 10);
         trie.put(0, 2, 20);
@@ -370,8 +325,8 @@ public final class PromiseTest {
 
     // Promise 8
 
-    private static void iterateNumbers() {
-        promise = "8 (iterate)";
+    @Says(where = "Promise 8", words = "iterate")
+    static void iterateNumbers() {
         SnapshotTrie trie = new SnapshotTrie();
         trie.put(0, 1, 10);
         for (int iterator = 0; iterator < 4; iterator++) {
@@ -398,8 +353,8 @@ public final class PromiseTest {
         dueThrow("its end", NO_ELEMENT, () -> trie.next(iterator));
     }
 
-    private static void iterateOrder() {
-        promise = "8 (iterate, order)";
+    @Says(where = "Promise 8", words = "iterate, order")
+    static void iterateOrder() {
         SnapshotTrie trie = new SnapshotTrie();
         int[] order = {key("0000", 1), key("0000", 0), key("0003", 0), key("0100", 0), key("1000", 0),
             key("2220", 0), key("2221", 1), key("2221", 2), key("2221", 0), key("2230", 0), key("3333", 0)};
@@ -410,8 +365,8 @@ public final class PromiseTest {
         dueOrder(trie, 0, order);
     }
 
-    private static void iteratorsDoNotSeeWrites() {
-        promise = "8 (iterate, later writes)";
+    @Says(where = "Promise 8", words = "iterate, later writes")
+    static void iteratorsDoNotSeeWrites() {
         SnapshotTrie trie = new SnapshotTrie();
         int[] keys = {key("0000", 0), key("0000", 1), key("0000", 2), key("3000", 0)};
         for (int at = 0; at < keys.length; at++) {
@@ -436,8 +391,8 @@ public final class PromiseTest {
 
     // Promise 9
 
-    private static void next() {
-        promise = "9 (next)";
+    @Says(where = "Promise 9", words = "next")
+    static void next() {
         SnapshotTrie trie = new SnapshotTrie();
         for (int iterator : NO_ITERATORS) {
             dueThrow("next of iterator " + iterator, ARGUMENT, () -> trie.next(iterator));
@@ -461,8 +416,8 @@ public final class PromiseTest {
 
     // Promise 10
 
-    private static void value() {
-        promise = "10 (value)";
+    @Says(where = "Promise 10", words = "value")
+    static void value() {
         SnapshotTrie trie = new SnapshotTrie();
         trie.put(0, key("1000", 0), Long.MIN_VALUE);
         trie.put(0, key("2000", 0), 20);
@@ -484,8 +439,8 @@ public final class PromiseTest {
 
     // Promise 11
 
-    private static void copied() {
-        promise = "11 (copied)";
+    @Says(where = "Promise 11", words = "copied")
+    static void copied() {
         SnapshotTrie trie = new SnapshotTrie();
         trie.put(0, key("0000", 0), 1);
         trie.put(0, key("0000", 1), 2);
@@ -510,8 +465,8 @@ public final class PromiseTest {
         due("nothing to be done", 0, trie.copied());
     }
 
-    private static void copiedStaysWhenACallThrows() {
-        promise = "11 (copied, calls that throw)";
+    @Says(where = "Promise 11", words = "copied, calls that throw")
+    static void copiedStaysWhenACallThrows() {
         SnapshotTrie trie = new SnapshotTrie();
         for (int i = 0; i < 6; i++) {
             trie.put(0, key("0000", i), i);
@@ -528,8 +483,8 @@ public final class PromiseTest {
 
     // Promise 12
 
-    private static void measure() {
-        promise = "12 (measure)";
+    @Says(where = "Promise 12", words = "measure")
+    static void measure() {
         SnapshotTrie trie = new SnapshotTrie();
         for (int what : new int[] {-1, 5, Integer.MIN_VALUE, Integer.MAX_VALUE}) {
             dueThrow("measure " + what, ARGUMENT, () -> trie.measure(0, what));
@@ -556,8 +511,8 @@ public final class PromiseTest {
 
     // Promise 13
 
-    private static void common() {
-        promise = "13 (common)";
+    @Says(where = "Promise 13", words = "common")
+    static void common() {
         SnapshotTrie trie = new SnapshotTrie();
         trie.put(0, key("0000", 0), 1);
         trie.put(0, key("0000", 1), 2);
@@ -584,8 +539,8 @@ public final class PromiseTest {
 
     // Promise 14
 
-    private static void generation() {
-        promise = "14 (generation)";
+    @Says(where = "Promise 14", words = "generation")
+    static void generation() {
         SnapshotTrie trie = new SnapshotTrie();
         due("at first", 1, trie.generation(0));
         trie.put(0, 1, 1);
@@ -609,8 +564,8 @@ public final class PromiseTest {
         }
     }
 
-    private static void theFirstNamedExceptionIsThrown() {
-        promise = "2 to 8 (several exceptions)";
+    @Says(where = "Promises 2 to 8", words = "several exceptions")
+    static void theFirstNamedExceptionIsThrown() {
         SnapshotTrie trie = new SnapshotTrie();
         for (int i = 0; i < 60; i++) {
             trie.put(0, i, i);
@@ -624,59 +579,5 @@ public final class PromiseTest {
         }
         dueThrow("no map before six maps", ARGUMENT, () -> trie.snapshot(6, false));
         dueThrow("no map before four iterators", ARGUMENT, () -> trie.iterate(6));
-    }
-
-    /** The n-th key, from 0 up, whose hash has these digits. */
-    private static int key(String digits, int n) {
-        int hash = Integer.parseInt(digits, 4);
-        int left = n;
-        for (int key = 0; key < 1000000; key++) {
-            long product = (key * -1640531535L) & 0xFFFFFFFFL;
-            if (product >> 24 == hash && left-- == 0) {
-                return key;
-            }
-        }
-        throw new NoSuchElementException("no such key");
-    }
-
-    private static long flag(boolean answer) {
-        return answer ? 1 : 0;
-    }
-
-    private static void due(String what, long want, long got) {
-        if (got != want) {
-            complain(what + " answered " + got + ", due is " + want);
-        }
-    }
-
-    private static void dueThrow(String what, String want, Call call) {
-        String got = "an answer";
-        try {
-            call.answer();
-        } catch (RuntimeException e) {
-            got = e.getClass().getSimpleName();
-        }
-        if (!got.equals(want)) {
-            complain(what + " gave " + got + ", due is " + want);
-        }
-    }
-
-    private static void dueMeasures(SnapshotTrie trie, int map, int... wants) {
-        for (int what = 0; what < wants.length; what++) {
-            due("measure(" + map + ", " + what + ")", wants[what], trie.measure(map, what));
-        }
-    }
-
-    private static void dueOrder(SnapshotTrie trie, int map, int... keys) {
-        int iterator = trie.iterate(map);
-        for (int at = 0; at < keys.length; at++) {
-            due("key " + at, keys[at], trie.next(iterator));
-        }
-        dueThrow("the end", NO_ELEMENT, () -> trie.next(iterator));
-    }
-
-    private static void complain(String what) {
-        wrong++;
-        System.out.println("promise " + promise + ": " + what);
     }
 }
