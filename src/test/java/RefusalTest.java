@@ -148,8 +148,8 @@ public final class RefusalTest extends Checks {
         SnapshotTrie asked = atTheEndOfIterator0();
         SnapshotTrie unasked = atTheEndOfIterator0();
         dueThrow("the end", NO_ELEMENT, () -> asked.next(0));
-        due("what is told of the maps", toldOfMaps(unasked).toString(), toldOfMaps(asked).toString());
-        due("the other iterator", drain(unasked, 1), drain(asked, 1));
+        dueSame(toldOfMaps(unasked), toldOfMaps(asked));
+        dueSame(toldOfTheRest(unasked, 1), toldOfTheRest(asked, 1));
         dueThrow("there is none then", ARGUMENT, () -> asked.next(0));
         due("its number is free", 0, asked.iterate(0));
         due("but not before", 1, unasked.iterate(0));
@@ -179,7 +179,7 @@ public final class RefusalTest extends Checks {
         SnapshotTrie asked = maker.make();
         SnapshotTrie unasked = maker.make();
         dueThrow("the call", exception, () -> refused.applyAsLong(asked));
-        due("all that can be told", allThatCanBeTold(unasked), allThatCanBeTold(asked));
+        dueSame(allThatCanBeTold(unasked), allThatCanBeTold(asked));
     }
 
     /** Writable maps 0 and 2, a read-only map 1, a full bag, iterators 0 and 1 on their way, a value and a copy. */
@@ -227,53 +227,77 @@ public final class RefusalTest extends Checks {
         return trie;
     }
 
-    private static String allThatCanBeTold(SnapshotTrie trie) {
-        List<Object> told = toldOfMaps(trie);
+    private static List<String> allThatCanBeTold(SnapshotTrie trie) {
+        List<String> told = toldOfMaps(trie);
         for (int iterator = 0; iterator <= 3; iterator++) {
-            told.add(drain(trie, iterator));
+            tellTheRest(trie, iterator, told);
         }
         for (int map = 0; map <= 5; map++) {
-            int over = map;
-            told.add(thrownBy(() -> trie.iterate(over)));
-            told.add(drain(trie, 0));
-            told.add(thrownBy(() -> flag(trie.replace(over, BAG[0], 1, 1))));
-            told.add(trie.copied());
+            int asked = map;
+            tell(told, "iterate(" + map + ")", () -> trie.iterate(asked));
+            tellTheRest(trie, 0, told);
+            tell(told, "replace in map " + map, () -> flag(trie.replace(asked, BAG[0], 1, 1)));
+            tell(told, "copied()", trie::copied);
         }
-        told.add(thrownBy(() -> trie.snapshot(0, false)));
-        told.add(trie.generation(0));
-        return told.toString();
+        tell(told, "snapshot(0)", () -> trie.snapshot(0, false));
+        tell(told, "generation(0)", () -> trie.generation(0));
+        return told;
     }
 
-    private static List<Object> toldOfMaps(SnapshotTrie trie) {
-        List<Object> told = new ArrayList<>();
-        told.add(trie.copied());
-        told.add(trie.value());
+    private static List<String> toldOfMaps(SnapshotTrie trie) {
+        List<String> told = new ArrayList<>();
+        tell(told, "copied()", trie::copied);
+        tell(told, "value()", trie::value);
         for (int map = 0; map <= 5; map++) {
             tellOfMap(trie, map, told);
         }
         return told;
     }
 
-    private static void tellOfMap(SnapshotTrie trie, int map, List<Object> told) {
-        told.add(thrownBy(() -> trie.generation(map)));
+    private static void tellOfMap(SnapshotTrie trie, int map, List<String> told) {
+        tell(told, "generation(" + map + ")", () -> trie.generation(map));
         for (int what = 0; what <= 4; what++) {
             int asked = what;
-            told.add(thrownBy(() -> trie.measure(map, asked)));
+            tell(told, "measure(" + map + ", " + what + ")", () -> trie.measure(map, asked));
         }
         for (int other = 0; other < map; other++) {
-            int second = other;
-            told.add(thrownBy(() -> trie.common(map, second)));
+            int asked = other;
+            tell(told, "common(" + map + ", " + other + ")", () -> trie.common(map, asked));
         }
     }
 
-    /** What an iterator gives yet, key and value, and how it ends. */
-    private static String drain(SnapshotTrie trie, int iterator) {
-        StringBuilder given = new StringBuilder();
-        String latest = thrownBy(() -> trie.next(iterator));
-        for (int count = 0; count <= 60 && !latest.endsWith("Exception"); count++) {
-            given.append(latest).append('=').append(trie.value()).append(' ');
-            latest = thrownBy(() -> trie.next(iterator));
+    private static List<String> toldOfTheRest(SnapshotTrie trie, int iterator) {
+        List<String> told = new ArrayList<>();
+        tellTheRest(trie, iterator, told);
+        return told;
+    }
+
+    /** What an iterator gives yet, and how it ends. */
+    private static void tellTheRest(SnapshotTrie trie, int iterator, List<String> told) {
+        boolean goesOn = true;
+        for (int count = 0; count <= 60 && goesOn; count++) {
+            goesOn = tell(told, "next(" + iterator + ")", () -> trie.next(iterator));
+            tell(told, "value()", trie::value);
         }
-        return given + latest;
+    }
+
+    /** Whether the call did not throw. */
+    private static boolean tell(List<String> told, String name, Call call) {
+        String outcome = thrownBy(call);
+        told.add(name + ": " + outcome);
+        return !outcome.endsWith("Exception");
+    }
+
+    /** Complains of the first difference alone, for the others mostly follow from it. */
+    private static void dueSame(List<String> want, List<String> got) {
+        int at = 0;
+        while (at < want.size() && at < got.size() && want.get(at).equals(got.get(at))) {
+            at++;
+        }
+        due("what is asked then", lineAt(want, at), lineAt(got, at));
+    }
+
+    private static String lineAt(List<String> told, int at) {
+        return at < told.size() ? told.get(at) : "nothing more";
     }
 }
